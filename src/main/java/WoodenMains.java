@@ -901,7 +901,6 @@ public final class WoodenMains {
     void search() {
       bestLack = Integer.MAX_VALUE;
       bestGreatest = Integer.MAX_VALUE;
-      Arrays.fill(loads, 0);
       tryFrom(0, 0);
     }
 

@@ -472,6 +472,15 @@ public final class PromisesTest {
     due(17, x.clashes(2), 2);
     x.turn(1, 2, 3, 5, 2);
     due(17, x.clashes(2), 3);
+    // Hours that only touch are not in common, whichever turn was told first.
+    WoodenMains touch = star(2);
+    touch.turn(0, 0, 0, 6, 1);
+    touch.turn(1, 0, 0, 2, 4);
+    due(17, touch.clashes(0), 0);
+    touch.turn(1, 0, 0, 7, 4);
+    due(17, touch.clashes(0), 0);
+    touch.turn(1, 0, 0, 1, 6);
+    due(17, touch.clashes(0), 1);
     WoodenMains end = star(2);
     end.turn(0, 0, 6, 22, 6);
     end.turn(1, 0, 0, 3, 1);
@@ -543,6 +552,12 @@ public final class PromisesTest {
     due(18, x.houseOf(3, 0), 0);
     due(18, x.houseOf(0, 0), 0);
     due(18, x.count(7), 0);
+    WoodenMains between = openAtFirst(1, 1 + 100);
+    int[] floors = {0, 2, 1, 3, 1};
+    int[] waters = {30, 10, 30, 0, 30};
+    for (int floor : floors) between.house(0, 100, floor, 0, true);
+    between.hours(1);
+    for (int h = 0; h < 5; h++) due(18, between.houseOf(h, 0), waters[h]);
     WoodenMains ends = openAtFirst(2, 2 + 60 + 40 + 5);
     ends.end(0, 0);
     ends.draw(0, true);
@@ -721,6 +736,11 @@ public final class PromisesTest {
     due(23, x.fire(3, 2), 4);
     x.hours(167);
     due(23, x.fire(3, 2), 0);
+    // A street of another line doesn't matter, whether it is shut or not.
+    WoodenMains apart = star(3);
+    apart.end(1, 0);
+    due(23, apart.fire(1, 0), 4 + 2);
+    due(23, apart.fire(1, 2), 1);
   }
 
   private static void reading() {
@@ -786,6 +806,7 @@ public final class PromisesTest {
     due(26, x.best(MOST), -6);
     // Without an open hour a main is worth nothing, and none is fewer than some.
     due(26, x.best(10000), 0);
+    due(26, x.best(0), 0);
     x.turn(1, 0, 0, 0, 2);
     x.turn(2, 0, 0, 0, 2);
     x.turn(3, 0, 0, 0, 4);
@@ -809,6 +830,10 @@ public final class PromisesTest {
     for (int s = 0; s < 3; s++) few.turn(s, 0, 0, 0, 1);
     due(26, few.best(200), 4);
     due(26, few.best(300), 4 | 1);
+    WoodenMains all = star(10);
+    for (int s = 0; s < 10; s++) all.turn(s, 0, s % 7, s, 1);
+    due(26, all.best(10000), 1023);
+    due(26, all.best(300), 7);
     // Behind a street that is shut no hour is open.
     WoodenMains shut = line(2);
     shut.turn(1, 0, 0, 0, 6);
@@ -938,6 +963,7 @@ public final class PromisesTest {
     due(31, x.rate(0, 301), -6);
     due(31, x.rate(0, MOST), -6);
     due(31, x.rate(0, 300), 0);
+    due(31, x.rate(0, 0), 0);
     x.law(100, 10, 1, 20);
     x.law(200, 20, 2, 10);
     due(31, x.rate(1, 9), 0);
