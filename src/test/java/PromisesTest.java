@@ -693,6 +693,7 @@ public final class PromisesTest {
     due(22, x.way(5, 4), 6);
     due(22, x.way(6, 4), 3);
     due(22, x.way(6, 5), 5);
+    due(22, line(10).way(-1, 9), 10);
   }
 
   private static void fire() {
@@ -741,6 +742,10 @@ public final class PromisesTest {
     apart.end(1, 0);
     due(23, apart.fire(1, 0), 4 + 2);
     due(23, apart.fire(1, 2), 1);
+    WoodenMains longest = line(10);
+    longest.end(9, 0);
+    due(23, longest.fire(9, 0), 4 * 10 + 2 * 10);
+    due(23, longest.fire(9, 2), 10);
   }
 
   private static void reading() {
