@@ -49,6 +49,8 @@ public final class WoodenMains {
   private static final int MOST_LAW_HOUSE = 999;
   private static final int MOST_LAW_PART = 99;
   private static final int MOST_DAY = 300;
+  /** NEEDS of all STREETS together stay far below it. */
+  private static final int ABOVE_ALL_NEEDS = 1000000;
 
   private static final int NOTHING = 0;
   private static final int PLUG = 1;
@@ -899,8 +901,8 @@ public final class WoodenMains {
     }
 
     void search() {
-      bestLack = Integer.MAX_VALUE;
-      bestGreatest = Integer.MAX_VALUE;
+      bestLack = ABOVE_ALL_NEEDS;
+      bestGreatest = ABOVE_ALL_NEEDS;
       tryFrom(0, 0);
     }
 

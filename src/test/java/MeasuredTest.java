@@ -7,8 +7,10 @@ import java.util.Random;
 
 /** Long runs of calls, good and bad ones, held against PlainCity answer by answer. */
 public final class MeasuredTest {
-  private static final int RUNS = 150;
-  private static final int CALLS = 512;
+  private static final int RUNS = 500;
+  /** With a look behind each third one these are the 512 calls that an object has. */
+  private static final int CALLS = 384;
+  private static final int CALLS_A_LOOK = 3;
 
   /** Name, how often, then a parameter each: S street, P place, H house, B whether, or least..greatest. */
   private static final String[] FACE = {
@@ -44,6 +46,7 @@ public final class MeasuredTest {
       MeasuredTest test = new MeasuredTest(run);
       for (int i = 0; i < CALLS; i++) {
         String fault = test.callOnce(often.get(test.random.nextInt(often.size())));
+        if (fault == null && i % CALLS_A_LOOK == 0) fault = test.look();
         if (fault != null) {
           System.out.println("run " + run + ":\n" + test.told + fault);
           System.exit(1);
@@ -68,7 +71,7 @@ public final class MeasuredTest {
   private String callOnce(String line) throws Exception {
     String[] words = line.split(" ");
     String name = words[0];
-    if (name.equals("street") && city.count(1) >= mostStreets && random.nextInt(8) != 0) return null;
+    if (name.equals("street") && plain.count(1) >= mostStreets && random.nextInt(8) != 0) return null;
     Object[] values = new Object[words.length - 2];
     Class<?>[] types = new Class<?>[values.length];
     for (int i = 0; i < values.length; i++) {
@@ -83,34 +86,36 @@ public final class MeasuredTest {
     String call = name + java.util.Arrays.toString(values) + " answered " + got;
     told.append(call).append('\n');
     if (want < 0) answersBelow.merge(Integer.toString(want), 1, Integer::sum);
-    if (got != want) return "due is " + want;
-    return lookAround();
+    return got == want ? null : "due is " + want;
   }
 
-  private String lookAround() {
-    for (int what = 0; what < 20; what++) {
-      if (city.count(what) != plain.count(what)) return "count(" + what + ") is " + city.count(what)
-          + ", due is " + plain.count(what);
+  /** Another one each time: what is wrong stays wrong, and some look comes to it. */
+  private String look() {
+    int street = random.nextInt(Math.max(1, plain.count(1)));
+    int house = random.nextInt(Math.max(1, plain.count(2)));
+    switch (random.nextInt(3)) {
+      case 0:
+        int it = random.nextInt(20);
+        return faultOf("count(" + it + ")", city.count(it), plain.count(it));
+      case 1:
+        int ofHouse = random.nextInt(4);
+        return faultOf("houseOf(" + house + ", " + ofHouse + ")", city.houseOf(house, ofHouse),
+            plain.houseOf(house, ofHouse));
+      default:
+        int ofStreet = random.nextInt(7);
+        return faultOf("streetOf(" + street + ", " + ofStreet + ")", city.streetOf(street, ofStreet),
+            plain.streetOf(street, ofStreet));
     }
-    for (int h = 0; h < city.count(2); h++) {
-      for (int what = 0; what < 4; what++) {
-        if (city.houseOf(h, what) != plain.houseOf(h, what)) return "houseOf(" + h + ", " + what + ") is "
-            + city.houseOf(h, what) + ", due is " + plain.houseOf(h, what);
-      }
-    }
-    for (int s = 0; s < city.count(1); s++) {
-      for (int what = 0; what < 7; what++) {
-        if (city.streetOf(s, what) != plain.streetOf(s, what)) return "streetOf(" + s + ", " + what + ") is "
-            + city.streetOf(s, what) + ", due is " + plain.streetOf(s, what);
-      }
-    }
-    return null;
+  }
+
+  private static String faultOf(String call, int got, int want) {
+    return got == want ? null : call + " answered " + got + ", due is " + want;
   }
 
   private Object valueOf(String kind) {
     if (kind.equals("B")) return random.nextBoolean();
-    int streets = city.count(1);
-    int houses = city.count(2);
+    int streets = plain.count(1);
+    int houses = plain.count(2);
     switch (kind) {
       case "S": return around(0, streets - 1);
       case "P": return around(-1, streets - 1);
